@@ -30,7 +30,6 @@ public final class OutwardDoors {
     private final Search search;
     private final Pricer pricer;
     private final int[] tally;
-    private Plan draft;
     private int ruleCount;
     private int pastCount;
     private int pastNext;
@@ -38,14 +37,13 @@ public final class OutwardDoors {
     public OutwardDoors() {
         tape = new Tape();
         castleReader = new CastleReader(tape);
-        ruleReader = new RuleReader(tape);
         rules = new Rule[MOST_RULES];
         for (int k = 0; k < MOST_RULES; k++) {
             rules[k] = new Rule();
         }
+        ruleReader = new RuleReader(tape, rules[0]);
         unruled = new Rule();
         unruled.becomeOne();
-        draft = new Plan();
         scene = new Scene(new Plan());
         images = new Scene[MOST_IMAGES];
         for (int k = 0; k < MOST_IMAGES; k++) {
@@ -57,8 +55,8 @@ public final class OutwardDoors {
             past[k] = new World();
         }
         mover = new Mover();
-        search = new Search();
-        pricer = new Pricer();
+        search = new Search(scene.plan);
+        pricer = new Pricer(scene.plan);
         tally = new int[MOST_PEOPLE * MOST_ROOMS];
     }
 
@@ -85,14 +83,13 @@ public final class OutwardDoors {
     }
 
     public int castle() {
-        castleReader.read(draft);
+        castleReader.read();
         int fault = tape.fault;
         tape.length = 0;
         if (fault != 0) {
             return -2 - fault;
         }
-        scene.plan = draft;
-        draft = new Plan();
+        scene.plan = castleReader.takePlan();
         scene.world.begin(scene.plan);
         scene.noteCount = 0;
         pastCount = 0;
@@ -748,11 +745,18 @@ public final class OutwardDoors {
 
         CastleReader(Tape tape) {
             this.tape = tape;
+            plan = new Plan();
+        }
+
+        /** The plan read last; a plan is given away, since images share it. */
+        Plan takePlan() {
+            Plan taken = plan;
+            plan = new Plan();
+            return taken;
         }
 
         /** Without a fault on the tape, the plan is whole then. */
-        void read(Plan into) {
-            plan = into;
+        void read() {
             plan.clear();
             clauses = 0;
             tape.open();
@@ -863,8 +867,9 @@ public final class OutwardDoors {
         private Rule made;
         private int parts;
 
-        RuleReader(Tape tape) {
+        RuleReader(Tape tape, Rule first) {
             this.tape = tape;
+            made = first;
         }
 
         /** Without a fault on the tape, the rule is whole then. */
@@ -1607,6 +1612,11 @@ public final class OutwardDoors {
         int movers;
         private int turnedDoor;
 
+        Passings(Plan plan) {
+            this.plan = plan;
+            turnedDoor = NONE;
+        }
+
         void prepare(Plan of, int at, int people, int inwardDoor) {
             plan = of;
             hour = at;
@@ -1693,6 +1703,11 @@ public final class OutwardDoors {
         private int tail;
         private int found;
 
+        Search(Plan plan) {
+            super(plan);
+            found = NONE;
+        }
+
         @Override
         void prepare(Plan of, int at, int people, int inwardDoor) {
             super.prepare(of, at, people, inwardDoor);
@@ -1713,7 +1728,7 @@ public final class OutwardDoors {
         }
 
         private void keep(int state, int mark) {
-            if (state >= 0 && state < marks.length && marks[state] == 0) {
+            if (state >= 0 && state < marks.length && marks[state] == 0 && tail < queue.length) {
                 marks[state] = mark;
                 queue[tail] = state;
                 tail++;
@@ -1727,7 +1742,7 @@ public final class OutwardDoors {
 
         /** Looks for the first state whose bits in the mask are the wanted ones. */
         void run(int mask, int want) {
-            for (int head = 0; head < tail; head++) {
+            for (int head = 0; head < tail && head < queue.length; head++) {
                 if ((queue[head] & mask) == want) {
                     found = queue[head];
                     return;
@@ -1737,7 +1752,7 @@ public final class OutwardDoors {
         }
 
         void exhaust() {
-            for (int head = 0; head < tail; head++) {
+            for (int head = 0; head < tail && head < queue.length; head++) {
                 spread(queue[head]);
             }
         }
@@ -1795,6 +1810,10 @@ public final class OutwardDoors {
         private final int[] first = new int[ROWS];
         private int payer;
         private int waiting;
+
+        Pricer(Plan plan) {
+            super(plan);
+        }
 
         @Override
         void prepare(Plan of, int at, int people, int inwardDoor) {
