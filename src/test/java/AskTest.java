@@ -37,7 +37,8 @@ public final class AskTest {
     }
 
     private static void comes() {
-        OutwardDoors x = Check.with(ROW, "go 1 if moment = 50 or moment = 150", "go 1 if moment = 0 or moment = 199");
+        OutwardDoors x = Check.with(ROW, "go 1 if moment = 50 or moment = 150", "go 1 if moment = 0 or moment = 199",
+            "go 1 if moment = 0 or moment = 198");
         Check.due("in 2", x.comes(1), 2);
         Check.due("never", x.comes(0), -2);
         Check.due("nobody", x.comes(2), -1);
@@ -45,6 +46,8 @@ public final class AskTest {
         Check.due("late", x.comes(1), 151);
         x.force(1);
         Check.due("too late", x.comes(1), -2);
+        x.force(2);
+        Check.due("at the last moment", x.comes(1), 199);
         x.force(-1);
         x.moment();
         Check.due("still in 2", x.comes(1), 2);
@@ -287,8 +290,13 @@ public final class AskTest {
         Check.due("1 is in 1", x.person(1, 0), 1);
         Check.due("nothing can be undone", x.undo(), -1);
         x.moment();
+        x.note(-1, 0, 0);
+        x.note(0, 0, 0);
+        Check.due("no rule is so", x.ruled(0), 0);
         Check.due("an image stays as it was", x.back(0), 1);
         Check.due("its notes too", x.ruled(0), 3);
+        Check.due("nothing can be undone", x.count(10), 0);
+        Check.due("nothing can be undone", x.undo(), -1);
         Check.due("back to nothing", x.back(3), 0);
         Check.due("no castle", x.count(0), 0);
         Check.due("no rule in force", x.count(4), -1);

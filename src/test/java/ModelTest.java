@@ -17,6 +17,10 @@ public final class ModelTest {
             random = new Random(base + run);
             oneRun(base + run);
         }
+        for (int run = 0; run < runs && Check.wrongSoFar() == 0; run++) {
+            random = new Random(base + run);
+            prices("prices " + (base + run));
+        }
         Check.finish("ModelTest");
     }
 
@@ -38,6 +42,28 @@ public final class ModelTest {
         for (int k = 0; k < 60 && Check.wrongSoFar() == 0; k++) {
             act(run);
             ask("run " + run + " call " + k + " of " + castle + " " + model.rules + ": ");
+        }
+    }
+
+    /** Many doors and unlike pay, so that a cheaper row to a state is often found behind a dearer one. */
+    private static void prices(String at) {
+        int rooms = 3 + random.nextInt(3);
+        StringBuilder text = new StringBuilder("castle " + rooms);
+        for (int a = 0; a < rooms; a++) {
+            for (int b = a + 1; b < rooms; b++) {
+                if (b == a + 1 || random.nextInt(3) > 0) {
+                    text.append(";door ").append(a).append(' ').append(b);
+                }
+            }
+        }
+        for (int p = 0; p < 4; p++) {
+            text.append(";person ").append(p == 0 ? rooms - 1 : random.nextInt(rooms)).append(' ')
+                .append(random.nextInt(rooms - 1)).append(' ').append(random.nextInt(51));
+        }
+        x = Check.with(text.toString());
+        model = new Model(text.toString());
+        for (int p = 0; p < 4; p++) {
+            Check.due(at + " " + text + " of " + p, x.price(p), model.price(p));
         }
     }
 

@@ -16,6 +16,7 @@ public final class SceneTest {
         aims();
         sendings();
         undoing();
+        lastMoment();
         counts();
         Check.finish("SceneTest");
     }
@@ -242,6 +243,17 @@ public final class SceneTest {
         }
         Check.due("the 21st can't be", x.undo(), -1);
         Check.due("goal of the fifth aim", x.person(0, 1), 1);
+    }
+
+    private static void lastMoment() {
+        OutwardDoors x = Check.with(ROW);
+        for (int k = 0; k < 999; k++) {
+            x.moment();
+        }
+        Check.due("moment", x.count(5), 999);
+        Check.due("no moment behind it", x.moment(), -1);
+        Check.due("still", x.count(5), 999);
+        Check.due("acts", x.count(10), 20);
     }
 
     private static void counts() {

@@ -6,6 +6,7 @@ public final class TellTest {
         castles();
         castleLimits();
         castleReplaces();
+        nothingOfAFaultStays();
         rules();
         ruleLimits();
         force();
@@ -55,6 +56,7 @@ public final class TellTest {
         Check.due("feed at 381", x.feed(0, 0, 0, 0, 0), -1);
         Check.due("end 380", x.end(380), 380);
         Check.due("feed at 380", x.feed(0, 0, 0, 0, 0), 400);
+        Check.due("end at its length", x.end(400), 400);
         Check.due("end 0", x.end(0), 0);
         Check.due("end 1 of none", x.end(1), -1);
         Check.due("count 12", x.count(12), 0);
@@ -89,6 +91,9 @@ public final class TellTest {
         badCastle("fare 0 0", 0, 0);
         badCastle("Castle 2", 0, 0);
         badCastle("castles 2", 0, 0);
+        badCastle("xastle 2", 0, 0);
+        badCastle("castlx 2", 0, 0);
+        badCastle("castl 2", 0, 0);
         badCastle("castle 2;", 9, 0);
         badCastle("castle 2;;", 9, 0);
         badCastle("castle 2 2", 9, 0);
@@ -156,6 +161,23 @@ public final class TellTest {
             Check.due("count " + what + " of another castle", x.count(what), due[what]);
         }
         Check.due("nothing to be undone", x.undo(), -1);
+    }
+
+    private static void nothingOfAFaultStays() {
+        OutwardDoors x = new OutwardDoors();
+        Check.castle(x, "castle 8;far 0 9;far 1 0;window 0 1;night 0 23;person 0 0 0;person 7 7 7;x");
+        Check.due("a castle behind a fault", Check.castle(x, "castle 2;door 0 1"), 0);
+        Check.due("rooms", x.count(0), 2);
+        Check.due("doors", x.count(1), 1);
+        Check.due("night", x.count(6), 0);
+        Check.due("far of 0", x.room(0, 0), 0);
+        Check.due("far of 1", x.room(1, 0), 1);
+        Check.due("no window", x.door(0, 2), 0);
+        Check.due("a night behind a fault", Check.castle(x, "castle 2;night 1 1;person 0 1 0;door 0 1"), 1);
+        Check.rule(x, "go 0;go 0 - 1;x");
+        Check.due("a rule behind a fault", Check.rule(x, "go 1 if 2 = 2"), 0);
+        x.force(0);
+        Check.due("by that rule", x.moment(), 1);
     }
 
     private static void badRule(String text, int place, int kind) {
