@@ -277,7 +277,7 @@ public final class OutwardDoors {
         }
         World world = scene.world;
         int people = scene.plan.people;
-        search.prepare(scene.plan, hour(), people, NONE);
+        search.begin(scene.plan, hour(), people, NONE);
         search.plant(world.packed(people));
         search.exhaust();
         int free = 0;
@@ -296,7 +296,7 @@ public final class OutwardDoors {
         }
         int people = scene.plan.people;
         int others = scene.world.packed(people);
-        search.prepare(scene.plan, hour(), people + 1, NONE);
+        search.begin(scene.plan, hour(), people + 1, NONE);
         for (int r = 0; r < scene.plan.rooms; r++) {
             search.plant(Passings.moved(others, people, r));
         }
@@ -312,7 +312,7 @@ public final class OutwardDoors {
         if (!isPerson(person)) {
             return NONE;
         }
-        pricer.prepare(scene.plan, hour(), scene.plan.people, NONE);
+        pricer.begin(scene.plan, hour());
         return pricer.least(scene.world, person);
     }
 
@@ -522,7 +522,7 @@ public final class OutwardDoors {
                 want |= world.goal[p] << 3 * p;
             }
         }
-        search.prepare(scene.plan, hour(), scene.plan.people, turnedDoor);
+        search.begin(scene.plan, hour(), scene.plan.people, turnedDoor);
         search.plant(world.packed(scene.plan.people));
         search.run(mask, want);
     }
@@ -931,18 +931,26 @@ public final class OutwardDoors {
 
         private void readFact(int depth) {
             boolean negated = tape.isWord("not");
-            if (!negated && !tape.isMark('[')) {
-                readComparison();
-            } else if (depth >= DEEPEST) {
+            boolean opens = negated || tape.isMark('[');
+            if (opens && depth >= DEEPEST) {
                 tape.fail(Tape.TOO_DEEP);
             } else if (negated) {
                 tape.next();
                 readFact(depth + 1);
                 made.add(Rule.NOT, 0);
-            } else {
+            } else if (opens) {
                 tape.next();
                 readTest(depth + 1);
                 closeBracket();
+            } else {
+                readSum();
+                int operation = signOperation();
+                if (maySign(operation)) {
+                    parts++;
+                    tape.next();
+                    readSum();
+                    made.add(operation, 0);
+                }
             }
         }
 
@@ -954,19 +962,13 @@ public final class OutwardDoors {
             }
         }
 
-        private void readComparison() {
-            readSum();
-            int operation = signOperation();
+        private boolean maySign(int operation) {
             if (operation == 0) {
                 tape.fail(Tape.MISPLACED);
             } else if (parts >= MOST_PARTS) {
                 tape.fail(Tape.TOO_MANY_PARTS);
-            } else if (tape.fault == 0) {
-                parts++;
-                tape.next();
-                readSum();
-                made.add(operation, 0);
             }
+            return tape.fault == 0;
         }
 
         private void readSum() {
@@ -1708,9 +1710,8 @@ public final class OutwardDoors {
             found = NONE;
         }
 
-        @Override
-        void prepare(Plan of, int at, int people, int inwardDoor) {
-            super.prepare(of, at, people, inwardDoor);
+        void begin(Plan of, int at, int people, int inwardDoor) {
+            prepare(of, at, people, inwardDoor);
             for (int k = 0; k < tail; k++) {
                 marks[queue[k]] = 0;
             }
@@ -1735,7 +1736,6 @@ public final class OutwardDoors {
             }
         }
 
-        @Override
         void reach(int state, int from, int label) {
             keep(state, SEEN | label << 15 | from);
         }
@@ -1802,7 +1802,7 @@ public final class OutwardDoors {
     private static final class Pricer extends Passings {
         // Of states that wait, none costs over 50 more than the one that is looked at.
         private static final int ROWS = 51;
-        private static final int UNSEEN = Integer.MAX_VALUE;
+        private static final int UNSEEN = 2147483647;
 
         private int[] costs = new int[1];
         private int[] next = new int[1];
@@ -1815,9 +1815,8 @@ public final class OutwardDoors {
             super(plan);
         }
 
-        @Override
-        void prepare(Plan of, int at, int people, int inwardDoor) {
-            super.prepare(of, at, people, inwardDoor);
+        void begin(Plan of, int at) {
+            prepare(of, at, of.people, NONE);
             if (costs.length < states()) {
                 costs = new int[states()];
                 next = new int[states()];
@@ -1853,7 +1852,6 @@ public final class OutwardDoors {
             return false;
         }
 
-        @Override
         void reach(int state, int from, int label) {
             int out = outOf(label);
             await(state, costs[from] + (out == payer ? 0 : plan.pay[out]));

@@ -7,6 +7,7 @@ public final class TellTest {
         castleLimits();
         castleReplaces();
         nothingOfAFaultStays();
+        bytesBehindTheEnd();
         rules();
         ruleLimits();
         force();
@@ -175,9 +176,32 @@ public final class TellTest {
         Check.due("no window", x.door(0, 2), 0);
         Check.due("a night behind a fault", Check.castle(x, "castle 2;night 1 1;person 0 1 0;door 0 1"), 1);
         Check.rule(x, "go 0;go 0 - 1;x");
-        Check.due("a rule behind a fault", Check.rule(x, "go 1 if 2 = 2"), 0);
+        Check.due("a rule behind a fault", Check.rule(x, "go 1 if 1 = 2"), 0);
         x.force(0);
+        Check.due("by that rule", x.moment(), 0);
+        for (int k = 0; k < 20; k++) {
+            Check.rule(x, "go 1" + "+1".repeat(58) + ";x");
+        }
+        Check.due("a rule behind many faults", Check.rule(x, "go 1 if 2 = 2"), 1);
+        x.force(1);
         Check.due("by that rule", x.moment(), 1);
+    }
+
+    /** Bytes that the tape had behind its end are no part of it. */
+    private static void bytesBehindTheEnd() {
+        OutwardDoors x = new OutwardDoors();
+        Check.tell(x, "go 1 if 1<=2");
+        x.end(10);
+        Check.due("a sign cut off", x.rule(), Check.fault(10, 0));
+        Check.tell(x, "castle    ");
+        x.end(7);
+        Check.due("blanks cut off", x.castle(), Check.fault(7, 0));
+        Check.tell(x, "castle 234");
+        x.end(8);
+        Check.due("digits cut off", x.castle(), 0);
+        Check.tell(x, "go here  ;");
+        x.end(6);
+        Check.due("letters cut off", x.rule(), Check.fault(3, 0));
     }
 
     private static void badRule(String text, int place, int kind) {
