@@ -14,6 +14,7 @@ public final class OutwardDoors {
     private static final int MOST_IMAGES = 4;
     private static final int MOST_PAST = 20;
     private static final int LAST_MOMENT = 999;
+    private static final int MOST_LOOKED_AT = 200;
     private static final int LAST_NOTED = 60;
     private static final int NO_WAY = 99;
 
@@ -237,13 +238,11 @@ public final class OutwardDoors {
         }
         trial.copyFrom(scene.world);
         Rule rule = ruleOf(scene.inForce);
-        for (int k = 0; k < 200; k++) {
-            if (trial.room[person] == trial.goal[person]) {
-                return trial.moment;
-            }
+        for (int k = 0; k < MOST_LOOKED_AT && trial.room[person] != trial.goal[person]; k++) {
             mover.advance(scene.plan, trial, rule);
         }
-        return ABSENT;
+        // Whoever comes in the last of these is there at the begin behind it.
+        return trial.room[person] == trial.goal[person] ? trial.moment : ABSENT;
     }
 
     // ---- what passings could do
@@ -420,16 +419,16 @@ public final class OutwardDoors {
         if (people == 0) {
             return 0;
         }
-        trial.copyFrom(scene.world);
         Rule rule = ruleOf(scene.inForce);
         int x = scene.x;
         int passed = 0;
         for (int day = 0; day < m; day++) {
-            x = drawn(x);
-            int who = (x >> 16) % people;
-            x = drawn(x);
-            trial.goal[who] = (x >> 16) % scene.plan.rooms;
+            trial.copyFrom(scene.world);
             for (int k = 0; k < n; k++) {
+                x = drawn(x);
+                int who = (x >> 16) % people;
+                x = drawn(x);
+                trial.goal[who] = (x >> 16) % scene.plan.rooms;
                 mover.advance(scene.plan, trial, rule);
                 passed += what == 0 ? mover.in : mover.out;
             }

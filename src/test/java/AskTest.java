@@ -37,8 +37,8 @@ public final class AskTest {
     }
 
     private static void comes() {
-        OutwardDoors x = Check.with(ROW, "go 1 if moment = 50 or moment = 150", "go 1 if moment = 0 or moment = 199",
-            "go 1 if moment = 0 or moment = 198");
+        OutwardDoors x = Check.with(ROW, "go 1 if moment = 50 or moment = 150", "go 1 if moment = 0 or moment = 200",
+            "go 1 if moment = 0 or moment = 199");
         Check.due("in 2", x.comes(1), 2);
         Check.due("never", x.comes(0), -2);
         Check.due("nobody", x.comes(2), -1);
@@ -47,10 +47,13 @@ public final class AskTest {
         x.force(1);
         Check.due("too late", x.comes(1), -2);
         x.force(2);
-        Check.due("at the last moment", x.comes(1), 199);
+        Check.due("in the last moment", x.comes(1), 200);
         x.force(-1);
         x.moment();
         Check.due("still in 2", x.comes(1), 2);
+        x.force(1);
+        Check.due("in the last moment from now", x.comes(1), 201);
+        x.force(-1);
         x.moment();
         x.moment();
         Check.due("there already", x.comes(1), 3);
@@ -243,12 +246,21 @@ public final class AskTest {
         Check.due("seed", x.seed(0), 2147483647);
     }
 
-    /** x 0: 12345 (a draw of 0), 1406932606 (21468), 654583775 (9988), 1449466924 (22117). */
+    /** By x 0 the draws are 0 21468, 9988 22117, 3498 16927, 16045 19741, 12122 8410, 12261 27052: two to a moment. */
     private static void days() {
         OutwardDoors x = Check.with("castle 2;door 0 1;person 0 0 0;person 0 0 0");
-        Check.due("21468 mod 2 is 0: nothing", x.days(1, 60, 1), 0);
-        Check.due("9988, 22117: person 0 goes out", x.days(2, 5, 1), 1);
-        Check.due("nobody comes in", x.days(2, 5, 0), 0);
+        Check.due("0, 21468: nothing", x.days(1, 1, 1), 0);
+        Check.due("9988, 22117: person 0 goes out", x.days(1, 2, 1), 1);
+        Check.due("3498, 16927: they are there", x.days(1, 3, 1), 1);
+        Check.due("16045, 19741: person 1 goes out", x.days(1, 4, 1), 2);
+        Check.due("nobody comes in", x.days(1, 6, 0), 0);
+        Check.due("each time from now: person 0 goes out twice", x.days(2, 2, 1), 3);
+        Check.due("the goal is as now, too: person 0 goes out two times of four", x.days(4, 1, 1), 3);
+        Check.rule(x, "go 1 if moment = 0");
+        x.force(0);
+        Check.due("the moment is as now, too", x.days(4, 1, 1), 3);
+        Check.due("each time one moment alone", x.days(2, 2, 1), 1);
+        x.force(-1);
         Check.due("x as it was", x.count(11), 0);
         Check.due("nothing stays", x.person(0, 0), 0);
         Check.due("nothing stays", x.person(0, 1), 0);
@@ -260,6 +272,10 @@ public final class AskTest {
         Check.due("what -1", x.days(1, 1, -1), -1);
         OutwardDoors y = Check.with("castle 2");
         Check.due("without people", y.days(10, 60, 0), 0);
+        OutwardDoors z = Check.with("castle 2;door 0 1;person 0 0 0;person 1 0 0");
+        Check.due("person 0 goes out", z.days(1, 2, 1), 1);
+        Check.due("and lets person 1 in", z.days(1, 2, 0), 1);
+        Check.due("from now, both times", z.days(2, 2, 0), 2);
     }
 
     private static void images() {

@@ -523,15 +523,15 @@ final class Model {
         if (people.isEmpty()) {
             return 0;
         }
-        State s = now.copy();
         long y = x;
         int passed = 0;
         for (int day = 0; day < m; day++) {
-            y = (y * 1103515245L + 12345L) % 2147483648L;
-            int who = (int) (y / 65536 % people.size());
-            y = (y * 1103515245L + 12345L) % 2147483648L;
-            s.goal[who] = (int) (y / 65536 % rooms);
+            State s = now.copy();
             for (int k = 0; k < n; k++) {
+                y = (y * 1103515245L + 12345L) % 2147483648L;
+                int who = (int) (y / 65536 % people.size());
+                y = (y * 1103515245L + 12345L) % 2147483648L;
+                s.goal[who] = (int) (y / 65536 % rooms);
                 s = advance(s, inForce);
                 passed += what == 0 ? passedIn : passedOut;
             }
@@ -541,7 +541,7 @@ final class Model {
 
     int comes(int person) {
         State s = now;
-        for (int k = 0; k < 200; k++) {
+        for (int k = 0; k <= 200; k++) {
             if (s.room[person] == s.goal[person]) {
                 return s.moment;
             }
