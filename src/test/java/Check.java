@@ -1,6 +1,9 @@
+import java.util.function.ToIntFunction;
+
 /** What all tests of the project share: counting wrong answers, and telling texts to an object. */
 final class Check {
     private static int wrong = 0;
+    private static String within = "";
 
     private Check() {
     }
@@ -8,12 +11,23 @@ final class Check {
     static void due(String call, long got, long want) {
         if (got != want) {
             wrong++;
-            System.out.println(call + " answered " + got + ", due is " + want);
+            System.out.println(within + call + " answered " + got + ", due is " + want);
         }
     }
 
     static void due(String call, boolean got, boolean want) {
         due(call, got ? 1 : 0, want ? 1 : 0);
+    }
+
+    static void due(String call, String got, String want) {
+        if (!got.equals(want)) {
+            due(call + " is" + got + ", due is" + want + ": it", 1, 0);
+        }
+    }
+
+    /** What stands ahead of each wrong answer that is told from here on. */
+    static void within(String words) {
+        within = words;
     }
 
     static int wrongSoFar() {
@@ -67,6 +81,33 @@ final class Check {
             }
         }
         return x;
+    }
+
+    /** All that can be seen of an object, but for what its tape's bytes are. */
+    static String allOf(OutwardDoors x) {
+        StringBuilder all = new StringBuilder();
+        for (int what = 0; what <= 12; what++) {
+            all.append(" count").append(what).append('=').append(x.count(what));
+        }
+        for (int p = 0; p < x.count(2); p++) {
+            for (int what = 0; what <= 7; what++) {
+                all.append(" person").append(p).append('.').append(what).append('=').append(x.person(p, what));
+            }
+        }
+        for (int r = 0; r < x.count(0); r++) {
+            all.append(" room").append(r).append('=').append(x.room(r, 0)).append(' ').append(x.room(r, 1));
+        }
+        for (int d = 0; d < x.count(1); d++) {
+            all.append(" door").append(d).append('=').append(x.door(d, 0)).append(' ').append(x.door(d, 1));
+        }
+        return all.append(" ruled=").append(x.ruled(0)).append(' ').append(x.ruled(1)).toString();
+    }
+
+    /** A call that answers so and changes nothing. */
+    static void nothingHappens(OutwardDoors x, String call, ToIntFunction<OutwardDoors> made, int want) {
+        String before = allOf(x);
+        due(call, made.applyAsInt(x), want);
+        due("all behind " + call, allOf(x), before);
     }
 
     /** What castle() and rule() answer of a fault. */
