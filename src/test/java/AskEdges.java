@@ -257,6 +257,11 @@ final class AskEdges {
         page("castle 3;door 0 1;door 1 2;person 2 0 0;person 0 0 0", 0, 1, 2);
         page("castle 8;door 6 7;person 7 6 0;person 0 0 0;person 0 0 0;person 0 0 0", 0, 6, 1);
         page("castle 2;person 0 1 0", 0, -2, -2);
+        String four = "castle 8;door 4 5;door 5 6;door 2 7;person 0 0 0;person 5 4 0;person 4 6 0;person 7 2 0";
+        page(four, 1, 0, 1);
+        page(four, 2, 0, 2);
+        page(four, 3, 2, 1);
+        page("castle 8;door 4 5;person 5 5 0;person 5 4 0;person 3 3 0", 1, 4, 1);
     }
 
     private static void pageInLeastRoom() {
@@ -465,6 +470,9 @@ final class AskEdges {
         Check.rule(x, "go 1 if person > 0");
         Check.due("1 parts 4 and 2, 0 2 and 4, 2 3 and 3", x.look(1, 1), 3);
         Check.due("2 parts best", x.look(1, 0), 2);
+        OutwardDoors four = Check.with("castle 8;door 6 7;person 7 7 0;person 0 0 0;person 0 0 0;person 6 7 0", "go 0");
+        Check.due("of four the last", four.look(1, 0), 3);
+        Check.due("one and one", four.look(1, 1), 1);
         OutwardDoors six = Check.with("castle 2;person 0 0 0", "go 0", "go 0", "go 0", "go 0", "go 0", "go 0");
         Check.due("all seven alike", six.look(60, 1), 7);
         Check.due("one person", six.look(60, 0), 0);
@@ -627,6 +635,17 @@ final class AskEdges {
         Check.due("back once more", x.back(2), 0);
         Check.due("no note", x.count(9), 0);
         Check.due("room", x.person(1, 0), 0);
+        x.note(1, 1, 1);
+        x.image(3);
+        x.note(-1, 0, 0);
+        x.note(1, 1, 0);
+        Check.due("another note is not so", x.ruled(0), 0);
+        Check.due("back to the note", x.back(3), 0);
+        Check.due("its moment, person and room", x.ruled(0), 1);
+        x.note(-1, 0, 0);
+        x.note(0, 0, 0);
+        x.back(3);
+        Check.due("its moment, person and room", x.ruled(0), 1);
         OutwardDoors y = new OutwardDoors();
         Check.due("an image without a castle", y.image(0), 0);
         Check.castle(y, ROW);

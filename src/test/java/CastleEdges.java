@@ -356,6 +356,8 @@ final class CastleEdges {
         bad("castle 8;door 7 6;door 6 7", 25, 1);
         bad("castle 8;window 7 6;window 7   6", 31, 1);
         good("castle 8;door 7 6;door 7 5;door 6 5", 0);
+        bad("castle 3;door 0 1;door 0 2;window 0 1", 36, 1);
+        bad("castle 3;door 0 1;door 0 2;door 1 2;door 2 0", 43, 1);
         OutwardDoors x = good("castle 2;door 0 1", 0);
         Check.due("in the next castle there is none yet", Check.castle(x, "castle 2;window 0 1"), 0);
     }

@@ -164,6 +164,11 @@ final class MomentEdges {
         Check.due("left", x.person(0, 3), 2);
         OutwardDoors y = Check.with("castle 3;door 0 1;door 1 2;door 0 2;person 0 2 0");
         Check.due("the goal itself", y.person(0, 4), 2);
+        OutwardDoors z = Check.with("castle 8;door 0 7;door 0 6;person 7 6 0;person 6 7 0;person 7 0 0");
+        Check.due("from the last room", z.person(0, 4), 0);
+        Check.due("in and out through 0", z.person(0, 3), 2);
+        Check.due("to the last room", z.person(1, 4), 0);
+        Check.due("beside the goal", z.person(2, 3), 1);
     }
 
     private static void stepByDoorsOpenNow() {

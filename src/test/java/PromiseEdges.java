@@ -21,8 +21,10 @@ final class PromiseEdges {
         e.promise(4, "(MOMENT 0, no NOTES, nothing to be UNDONE; the RULE IN FORCE and x stay)", PromiseEdges::nextCastle);
         e.promise(4, "how many PEOPLE;", PromiseEdges::castleOfPeople);
         e.promise(4, "-2 - its FAULT, and all stays.", PromiseEdges::allStaysByFault);
+        e.promise(4, "-2 - its FAULT, and all stays.", PromiseEdges::castleBehindFault);
         e.promise(5, "The TAPE, which is empty then, is a RULE: its number;", PromiseEdges::tapeBehindRule);
         e.promise(5, "-2 - its FAULT;", PromiseEdges::faultOfRule);
+        e.promise(5, "-2 - its FAULT;", PromiseEdges::ruleBehindFault);
         e.promise(5, "NONE, and nothing happens: there are 6.", PromiseEdges::seventhRule);
         e.promise(6, "A RULE is IN FORCE (NONE: none): which was;", PromiseEdges::whichWasInForce);
         e.promise(6, "-2, and nothing happens, if there is none such.", PromiseEdges::forceRefused);
@@ -159,6 +161,19 @@ final class PromiseEdges {
         Check.due("shorter", x.end(8), 8);
         Check.due("read so", x.castle(), 0);
         Check.due("without far", x.room(0, 0), 0);
+        Check.tell(x, "castle 2;far 0 12");
+        x.end(16);
+        Check.due("digits cut off", x.castle(), 0);
+        Check.due("far", x.room(0, 0), 1);
+        Check.tell(x, "go 1 if 1<=2");
+        x.end(10);
+        Check.due("a sign cut off", x.rule(), Check.fault(10, 0));
+        Check.tell(x, "go heres");
+        x.end(7);
+        Check.due("letters cut off", x.rule(), 0);
+        Check.tell(x, "castle    ");
+        x.end(7);
+        Check.due("blanks cut off", x.castle(), Check.fault(7, 0));
         Check.due("none of none", x.end(0), 0);
         x.feed(0, 0, 0, 0, 0);
         Check.due("none of twenty", x.end(0), 0);
@@ -220,6 +235,27 @@ final class PromiseEdges {
         Check.due("undo", x.undo(), 2);
     }
 
+    /** Nothing of a castle with a fault comes into the next one. */
+    private static void castleBehindFault() {
+        OutwardDoors x = new OutwardDoors();
+        Check.castle(x, "castle 8;far 0 9;far 1 0;window 0 1;door 2 1;night 0 23;person 0 0 0;person 7 7 7;x");
+        Check.due("the next one", Check.castle(x, "castle 3;door 0 1;door 2 1;person 0 1 5"), 1);
+        int[] due = {3, 2, 1, 0, -1, 0, 0};
+        for (int what = 0; what < due.length; what++) {
+            Check.due("count " + what, x.count(what), due[what]);
+        }
+        Check.due("far of 0", x.room(0, 0), 0);
+        Check.due("far of 1", x.room(1, 0), 1);
+        Check.due("no window", x.door(0, 2), 0);
+        Check.castle(x, "castle 2;night 0 23;x");
+        Check.due("a night of its own", Check.castle(x, "castle 2;night 1 1"), 0);
+        Check.due("day", x.count(6), 0);
+        Check.castle(x, "castle 8" + ";person 0 0 0".repeat(5));
+        Check.castle(x, CastleEdges.doors(14) + ";door 6 7");
+        Check.due("doors and people of its own", Check.castle(x, CastleEdges.doors(14) + ";person 0 0 0"), 1);
+        Check.due("doors", x.count(1), 14);
+    }
+
     private static void tapeBehindRule() {
         OutwardDoors x = new OutwardDoors();
         for (int k = 0; k < 6; k++) {
@@ -235,6 +271,22 @@ final class PromiseEdges {
         refuses(x, Check.fault(3, 1), "rule", y -> Check.rule(y, "go 111111"));
         Check.due("empty behind a fault", x.count(12), 0);
         Check.due("the next number", Check.rule(x, "go 1"), 2);
+    }
+
+    /** Nothing of a rule with a fault comes into the next one. */
+    private static void ruleBehindFault() {
+        OutwardDoors x = Check.with("castle 2;door 0 1;person 0 1 0");
+        Check.rule(x, "go 1;go 1;x");
+        Check.due("the next one", Check.rule(x, "go 1 if 1 = 0"), 0);
+        x.force(0);
+        Check.due("by the next one", x.moment(), 0);
+        for (int k = 0; k < 12; k++) {
+            Check.rule(x, "go 1" + ";go 0".repeat(11) + ";x");
+            Check.rule(x, "go 0" + "+0".repeat(59) + " if x");
+        }
+        Check.due("one more", Check.rule(x, "go 1" + "-0".repeat(59)), 1);
+        x.force(1);
+        Check.due("by that one", x.moment(), 1);
     }
 
     private static void seventhRule() {
@@ -327,6 +379,11 @@ final class PromiseEdges {
 
     private static void roomsOfDoor() {
         OutwardDoors x = Check.with("castle 4;door 3 0;door 2 1;far 2 1;window 3 2;far 3 0");
+        OutwardDoors y = Check.with("castle 3;far 2 1;door 1 2;far 0 1;door 2 0");
+        Check.due("of two as far the lesser", y.door(0, 0), 1);
+        Check.due("of two as far the greater", y.door(0, 1), 2);
+        Check.due("of two as far the lesser", y.door(1, 0), 0);
+        Check.due("of two as far the greater", y.door(1, 1), 2);
         int[][] due = {{0, 3}, {1, 2}, {3, 2}};
         for (int d = 0; d < 3; d++) {
             Check.due("less far of " + d, x.door(d, 0), due[d][0]);

@@ -143,6 +143,9 @@ final class RuleEdges {
         fails("[1 = 1 or 1 = 1] and 1 = 0");
         holds("1 = 1 and [1 = 0 or 1 = 1]");
         holds("[[1 = 1]]");
+        fails("1 = 1 and [1 = 0]");
+        fails("1 = 1 and [1 = 1 and 1 = 0]");
+        holds("1 = 0 or [1 = 1]");
         bad("go 1 if []", 9, 0);
         bad("go 1 if [1 = 1", 14, 0);
         bad("go 1 if 1 = 1]", 13, 0);
@@ -267,6 +270,8 @@ final class RuleEdges {
         Check.due("0 at the goal", holdFor("person 0 0 0;person 1 7 0;person 2 3 0", "left = 0"), 1);
         Check.due("1 beside it", holdFor("person 0 0 0;person 1 7 0;person 2 3 0", "left = 1"), 2);
         Check.due("2, out and in", holdFor("person 0 0 0;person 1 7 0;person 2 3 0", "left = 2"), 4);
+        Check.due("in and out through 0", forced("castle 4;door 0 1;door 0 2;door 1 3;person 1 2 0",
+            "go 0 - 1 if left = 2").ahead(0, 1), 3);
         String row = "castle 8;door 0 1;door 1 2;door 2 3;door 3 4;door 4 5;door 5 6;door 6 7;person 0 7 0";
         Check.due("the longest way", forced(row, "go 1 if left = 7").ahead(0, 1), 1);
         String window = "castle 3;door 0 1;door 1 2;window 0 2;night 1 1;person 0 2 0";
