@@ -281,6 +281,10 @@ final class AskEdges {
         Check.due("nobody", Check.with("castle 2;door 0 1;person 1 0 5").price(0), -2);
         Check.due("more passings for less",
             Check.with("castle 3;door 0 1;door 1 2;person 2 0 0;person 1 1 50;person 0 0 3;person 0 0 4").price(0), 10);
+        // Person 2 goes for nothing but once: to let 0 in both times somebody else must go, and 3 asks least.
+        OutwardDoors x = Check.with("castle 4;door 0 1;door 1 2;door 1 3;person 3 0 3;person 1 2 6;person 0 3 0;person 1 1 2");
+        Check.due("of many ways the cheapest", x.price(0), 2);
+        Check.due("the others go by themselves", x.price(1) + x.price(2) + x.price(3), 0);
     }
 
     private static void priceEachTime() {
