@@ -19,7 +19,7 @@ public final class FaceTest {
         "int look(int,int)", "int seed(int)", "int days(int,int,int)", "int count(int)", "int image(int)",
         "int back(int)"};
     private static final String[] BANNED = {"\\bthrow\\b", "\\btry\\b", "\\bcatch\\b", "\\bsynchronized\\b",
-        "\\bassert\\b", "->", "::", "\\bExact\\b", "\\bpackage\\b", "\\bprotected\\b", "\\bnull\\b",
+        "\\bassert\\b", "->", "::", "Exact\\b", "\\bpackage\\b", "\\bprotected\\b", "\\bnull\\b",
         "\\bSystem\\.(?!arraycopy)", "while \\(true\\)", "for \\(;;\\)", "\\bdouble\\b", "\\bfloat\\b",
         "^import (?!java\\.util\\.Arrays;)", "\\bvar\\b", "\\byield\\b", "\\bRuntime\\b", "\\bThread\\b"};
 
