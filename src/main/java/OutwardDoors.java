@@ -581,6 +581,11 @@ public final class OutwardDoors {
         return (int) (x * 1103515245L + 12345L & 2147483647L);
     }
 
+    /** The number of the lowest bit. */
+    private static int firstOf(int bits) {
+        return Integer.bitCount((bits & -bits) - 1);
+    }
+
     /** The bytes fed so far; read as tokens, with the first fault found along them. */
     private static final class Tape {
         static final int MOST = 400;
@@ -1597,10 +1602,6 @@ public final class OutwardDoors {
             }
             return NONE;
         }
-    }
-
-    private static int firstOf(int bits) {
-        return Integer.bitCount((bits & -bits) - 1);
     }
 
     /**

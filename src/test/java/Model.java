@@ -6,7 +6,8 @@ import java.util.Map;
 
 /**
  * The document once more, written as plainly as the library allows and without a thought of cost:
- * what random runs are compared with. It takes its castle and rules as well-formed texts.
+ * what random runs are compared with. It takes its castle and rules as well-formed texts;
+ * of an empty text it is a castle of no rooms.
  */
 final class Model {
     static final class Door {
@@ -51,7 +52,7 @@ final class Model {
     int x;
 
     Model(String castle) {
-        for (String clause : castle.split(";")) {
+        for (String clause : castle.isEmpty() ? new String[0] : castle.split(";")) {
             String[] w = clause.trim().split(" +");
             if (w[0].equals("castle")) {
                 rooms = Integer.parseInt(w[1]);
