@@ -19,12 +19,28 @@ public final class ReadmeTest {
         if (from >= 0 && to > from) {
             Check.due("too few calls in the example", runExample(text.substring(from, to)) < FEWEST_CALLS, false);
         }
+        takeTexts(text.split("\n"));
         for (Method method : OutwardDoors.class.getMethods()) {
             if (method.getDeclaringClass() == OutwardDoors.class) {
                 Check.due("README.md names " + method.getName(), text.contains("`" + method.getName() + "("), true);
             }
         }
         Check.finish("ReadmeTest");
+    }
+
+    /** The texts shown on lines of their own can be taken. */
+    private static void takeTexts(String[] lines) {
+        OutwardDoors x = new OutwardDoors();
+        int taken = 0;
+        for (String line : lines) {
+            boolean castle = line.startsWith("    castle ");
+            if (castle || line.startsWith("    go ")) {
+                int answer = castle ? Check.castle(x, line.trim()) : Check.rule(x, line.trim());
+                Check.due("README.md shows a text with a fault: " + line, answer < 0, false);
+                taken++;
+            }
+        }
+        Check.due("README.md shows texts", taken > 0, true);
     }
 
     private static int runExample(String example) throws ReflectiveOperationException {
